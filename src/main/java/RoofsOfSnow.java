@@ -517,7 +517,7 @@ public final class RoofsOfSnow {
     private static int greatestCommon(int a, int b) {
         int greater = Math.max(a, b);
         int less = Math.min(a, b);
-        // Both are tenths, no more than 40 together: far fewer steps than this.
+        // Both are tenths, 10 at most: far fewer steps than this.
         for (int step = 0; step < 100 && less > 0; step++) {
             int rest = greater % less;
             greater = less;

@@ -239,7 +239,7 @@ public final class PromisesTest {
     }
 
     private static void layAnew() {
-        RoofsOfSnow x = laid("r9,0,0,99,1,8;r9,0,0,99,1,8;k1,20,0,0;k2,0,0,9;s1;h3,2;");
+        RoofsOfSnow x = laid("r9,0,0,99,1,8;r9,0,0,99,1,8;k1,20,0,0;k2,0,0,9;s1;h3,2;p0,7;");
         x.tell(1, 1);
         x.creak(0, false);
         x.prop(1);
@@ -269,8 +269,13 @@ public final class PromisesTest {
         due("5 none to go back to", x.back(), NO);
         due("5 no props", x.roof(1, 4), 0);
         due("5 stood", x.roof(1, 6), 400);
+        due("5 stood anew", x.roof(0, 6), 10);
+        due("5 nobody told", x.roof(0, 7), 0);
         due("5 stood not", x.roof(2, 6), 0);
         due("5 0, 0 TOLD", x.tell(0, 1), 0);
+        x.on(4, 1);
+        x.on(4, 2);
+        due("5 no SKY told", x.roof(0, 2), 10);
         due("5 again", x.lay(), 3);
     }
 
@@ -327,6 +332,9 @@ public final class PromisesTest {
         due("7 ROOF 3", x.thought(3, 0), BAD);
         due("7 500 by 10", x.thought(2, 0), 10);
         due("7 none told", x.thought(2, 1), 0);
+        // 500 without any: that is borne, 501 is not.
+        due("7 500", laid("r200,200,0,999,0,8;").goes(0, 50, 0), 0);
+        due("7 501", laid("r200,199,0,999,0,8;").goes(0, 51, 0), 1);
     }
 
     private static void now() {
@@ -552,6 +560,8 @@ public final class PromisesTest {
         hand("as if there were more", "r5,3,0,99,0,8;r1,2,0,99,0,8;" + weak, 1, 2, 0);
         hand("uneven by the sky", "r5,5,1,99,0,8;r6,0,20,99,0,8;b0,26,10;b1,26,5;b1,99,5;k1,14,0,0;",
                 1, 1, 2);
+        hand("D of this SKY", "r3,4,0,99,0,8;r3,4,0,99,0,8;b0,20,5;b0,40,5;b1,20,6;b1,40,4;k1,0,17,0;"
+                + "k2,5,0,0;", 1, 1, 3);
         hand("like sides", "r0,0,0,99,0,8;r4,4,0,99,0,8;" + weak, 1, 1, 2);
         hand("of those that stay", "r11,0,0,99,0,8;r11,0,0,99,0,8;b0,5,6;b0,12,4;b1,12,5;b1,40,5;"
                 + "k1,2,0,0;", 1, 1, 0);
@@ -561,6 +571,7 @@ public final class PromisesTest {
                 + people, 2, 0, 3);
         hand("more lies on SIDE 0", "r2,1,0,9,0,8;p0,1;", 2, 0, 0);
         hand("like sides", "r2,2,0,9,0,8;", 2, 0, 0);
+        hand("on SIDE 0 alone", "r1,0,0,9,0,8;r1,0,0,9,0,8;p1,1;", 2, 0, 2);
         hand("none asleep", "r0,0,0,9,0,8;r0,1,0,9,0,8;", 2, 0, 3);
         hand("nothing lies", "r0,0,0,9,0,8;", 2, 0, NONE);
         hand("0, 0 at first", "r1,5,0,9,0,8;r5,5,0,9,0,8;", 3, 0, 0);
@@ -674,8 +685,12 @@ public final class PromisesTest {
         // 8 is out: 5 tenths of all.
         due("16 then as behind 0", x.over(4, 2), 500000);
         due("16 now 1", x.now(1) * 10 + x.now(0), 11);
-        x = laid("r0,0,0,999,1,8;b0,8,10;k1,9,0,0;h0,1;");
-        due("16 4, 3, 3 without", x.over(4, 1), 300000);
+        for (int ahead = 0; ahead < 3; ahead++) {
+            for (int k = 0; k < 3; k++) {
+                x = laid("r0,0,0,999,1,8;b0,8,10;h0,1;s" + ahead + ";k" + k + ",9,0,0;");
+                due("16 4, 3, 3 without: " + k, x.over(4, 1), k == 0 ? 400000 : 300000);
+            }
+        }
         x = laid("r0,0,0,999,1,8;r8,0,0,999,0,8;b0,8,3;b0,40,7;k1,9,0,0;h0,1;c0,9,1,0;c0,0,1,9;s2;"
                 + "c2,7,3,0;");
         due("16 from the SKY told", x.over(4, 1), 90000);
@@ -683,6 +698,8 @@ public final class PromisesTest {
         x = laid("r6,0,0,999,1,8;b0,5,3;b0,7,1;b0,999,6;k1,9,0,0;h0,1;c0,1,9,0;c1,1,9,0;");
         due("16 cut", x.over(4, 1), 128571);
         due("16 cut at the end", x.over(4, 5), 142855);
+        x = laid("r6,0,0,999,1,8;b0,5,3;b0,7,1;b0,999,6;k1,9,0,0;h0,1;c0,3,7,0;");
+        due("16 cut just below", x.over(4, 1), 99999);
     }
 
     private static void best() {
@@ -777,6 +794,16 @@ public final class PromisesTest {
         x = laid("r5,20,0,999,9,8;b0,25,10;h2,10;k1,20,0,0;");
         Check.skies(x, 1);
         due("18 all hands", x.first(0), 1);
+        // Of ROOF 1: 40, 35 or with none at it 50.
+        RoofsOfSnow y = laid("r9,0,0,999,9,8;r10,20,0,999,9,8;b1,37,10;h1,15;k1,20,0,0;");
+        Check.skies(y, 1);
+        due("18 SIDE 1 of ROOF 1", y.first(1), 1);
+        y = laid("r9,0,0,999,9,8;r20,10,0,999,9,8;b1,37,10;h1,15;k1,20,0,0;");
+        Check.skies(y, 1);
+        due("18 SIDE 0 of ROOF 1", y.first(1), 0);
+        y = laid("r9,0,0,999,9,8;r10,20,0,999,9,8;b1,40,10;h1,15;k1,20,0,0;");
+        Check.skies(y, 1);
+        due("18 either SIDE of ROOF 1", y.first(1), 0);
         x.tell(0, 1);
         due("18 whatever is TOLD", x.first(0), 1);
         due("18 TOLD stays", x.tell(0, 0), 1);
@@ -853,6 +880,15 @@ public final class PromisesTest {
         x = laid("r30,0,0,999,9,8;b0,30,10;h0,10;o10,2;k1,9,0,0;");
         Check.skies(x, 1);
         due("21 not in time, no hand to lose", x.instead(0, 0), 9000000);
+        // One of two hands: 36 or 35, less 5; in the next HOUR both: 31 less 5.
+        x = laid("r30,0,0,999,9,8;b0,30,10;h2,10;o5,1;k1,16,0,0;k2,15,0,0;");
+        Check.skies(x, 1);
+        due("21 both hands", x.loss(0), 0);
+        due("21 one hand fewer", x.instead(0, 0), 9000000);
+        Check.skies(x, 2);
+        due("21 not two hands fewer", x.instead(0, 0), 0);
+        Check.skies(x, 2, 1);
+        due("21 in the first HOUR alone", x.instead(0, 0), 0);
         x = laid("r0,0,0,999,9,8;");
         x.prop(0);
         x.prop(0);
@@ -865,13 +901,16 @@ public final class PromisesTest {
     private static void look() {
         // One hand, two ROOFS that go at 15 or not: ROOF 0 by a half, of 9; ROOF 1 all, of 6.
         RoofsOfSnow x = laid("r15,0,0,999,9,8;r15,0,0,999,6,8;r9,0,0,9,0,8;b0,18,5;b0,99,5;"
-                + "b1,18,10;b2,8,10;k1,4,0,0;h1,10;");
+                + "b1,18,10;b2,8,10;k1,4,0,0;k2,60,60,0;h1,10;");
         due("22 no row", x.look(0), NO);
         Check.skies(x, 1);
         // BEST clears ROOF 1: 4500000. Known 18: ROOF 0, 6000000; known 99: ROOF 1, none.
         due("22 best", x.best(1, -1), 4500000);
+        due("22 rain", x.rain(9), 0);
         due("22 known", x.look(0), 1500000);
         due("22 nothing to know", x.look(1), 0);
+        Check.skies(x, 1, 2);
+        due("22 by 1 HOUR", x.look(0), 1500000);
         due("22 GONE", x.look(2), NO);
         due("22 ROOF 3", x.look(3), BAD);
         due("22 ROOF -1", x.look(-1), BAD);
@@ -907,7 +946,7 @@ public final class PromisesTest {
 
     private static void out() {
         RoofsOfSnow x = laid("r10,0,0,99,0,8;r9,0,0,9,0,8;b0,19,2;b0,29,3;b0,39,5;b1,8,10;k1,10,0,0;"
-                + "k2,5,0,0;h1,20;");
+                + "k2,5,0,0;k0,10,0,0;h1,20;");
         due("24 no row", x.out(0, 4, 1, 100, 0), NONE);
         Check.skies(x, 1, 1, 1);
         due("24 2 of 10 by HOUR 1", x.out(0, 4, 1, 5, 0), 1);
@@ -998,6 +1037,10 @@ public final class PromisesTest {
         // DEEP: 30 first, 10 HOURS by 10 hands.
         x = laid("r50,0,0,99,3,8;b0,41,10;k0,1,0,0;c0,10,0,0;h1,10;");
         due("25 41 bears 41", x.night(0, 0, 24, 0), 0);
+        // ROOF 0 goes by 51; then the hand is at ROOF 1: 31, 32, 33.
+        RoofsOfSnow y = laid("r50,0,0,99,3,8;r20,0,0,99,5,8;b0,50,10;b1,41,10;k0,11,0,0;c0,10,0,0;"
+                + "h1,10;");
+        due("25 no hand where it is gone", y.night(0, 0, 3, 0), 1);
         due("25 none clears", x.now(3), 0);
         x = laid("r41,0,0,99,3,8;b0,41,10;k0,10,0,0;c0,10,0,0;h1,10;o5,2;");
         due("25 41 again and again", x.night(0, 0, 24, 0), 0);
@@ -1039,9 +1082,19 @@ public final class PromisesTest {
         due("27 TOLD", x.tell(0, 0), 3);
         due("27 not the told row", x.count(2), 2);
         due("27 no more", x.back(), NO);
+        x.keep();
+        x.creak(1, true);
+        x.on(4, 0);
+        due("27 a creak more", x.count(3), 2);
+        due("27 all creaks", x.back() + x.count(3), 1);
         due("26 again", x.keep(), 1);
         due("26 a village of its own", x.on(4, 1) + x.back(), 3);
         due("27 back again", x.roof(0, 0), 10);
+        x = laid("r10,0,0,99,3,8;k1,7,0,0;h0,1;");
+        x.keep();
+        x.on(4, 1);
+        due("27 17 stood", x.roof(0, 6), 17);
+        due("27 back to 10", x.back() + x.roof(0, 6), 10);
     }
 
     private static void count() {
