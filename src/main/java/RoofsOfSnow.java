@@ -837,6 +837,7 @@ public final class RoofsOfSnow {
         private final Row snow = new Row(MOST_SPOTS);
         // Of each ROOF the B that stay, as bits.
         private final Row stays = new Row(MOST_ROOFS);
+        // Of each ROOF the greatest PRESS stood; it is told, not beside a B: props take nothing off.
         private final Row stood = new Row(MOST_ROOFS);
         private final Row props = new Row(MOST_ROOFS);
         // HOURS until each prop is done.
@@ -1048,13 +1049,12 @@ public final class RoofsOfSnow {
         }
 
         private boolean feel(int i) {
-            int load = load(i);
-            int left = staysFrom(i, load);
+            int left = staysFrom(i, load(i));
             if (plan.tenthsOf(i, left) == 0) {
                 return false;
             }
             stays.set(i, left);
-            stood.set(i, Math.max(stood.get(i), load));
+            stood.set(i, Math.max(stood.get(i), pressWith(i, 0, 0)));
             return true;
         }
 

@@ -30,6 +30,8 @@ final class Model {
         int right;
         boolean stands = true;
         List<Integer> stood = new ArrayList<>();
+        // The same by themselves, not beside a B.
+        List<Integer> stoodBare = new ArrayList<>();
         List<int[]> creaks = new ArrayList<>();
         List<Integer> props = new ArrayList<>();
 
@@ -39,6 +41,7 @@ final class Model {
             c.right = right;
             c.stands = stands;
             c.stood = new ArrayList<>(stood);
+            c.stoodBare = new ArrayList<>(stoodBare);
             c.creaks = new ArrayList<>(creaks);
             c.props = new ArrayList<>(props);
             return c;
@@ -258,6 +261,8 @@ final class Model {
                 r.stood.remove(r.stood.size() - 1);
                 fall(r);
                 bits += 1 << i;
+            } else {
+                r.stoodBare.add(press(now, i, 0, 0));
             }
         }
         return bits;
@@ -469,7 +474,7 @@ final class Model {
         }
         Roof r = now.roofs.get(i);
         int greatest = 0;
-        for (int p : r.stood) {
+        for (int p : r.stoodBare) {
             greatest = Math.max(greatest, p);
         }
         return new int[] {r.left, r.right, press(now, i, 0, 0), done(now, i), r.props.size(),

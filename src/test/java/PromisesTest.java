@@ -314,6 +314,34 @@ public final class PromisesTest {
         due("6 no snow", x.roof(0, 0) + x.roof(0, 1) + x.roof(0, 2), 0);
         due("6 what it had stood", x.roof(0, 6), 60);
         due("6 people also then", x.roof(0, 7), 0);
+        stoodWithProps();
+    }
+
+    /** What is answered by itself is not beside a B: nothing less for props. */
+    private static void stoodWithProps() {
+        RoofsOfSnow x = laid("r40,10,5,999,7,8;b0,70,5;b0,99,5;h0,1;k1,20,0,0;k2,5,0,0;o20,1;");
+        due("6 stood without a prop", x.roof(0, 6), 65);
+        x.prop(0);
+        due("6 a prop that is not done", x.roof(0, 6), 65);
+        // 60 and 10: 70 and 25 together, 75 beside a B.
+        due("6 stands by the prop", x.on(4, 1), 0);
+        due("6 the prop is done", x.roof(0, 3), 20);
+        due("6 PRESS as it is", x.roof(0, 2), 95);
+        due("6 stood, nothing less for the prop", x.roof(0, 6), 95);
+        due("7 70 is out, 99 is not", x.thought(0, -1), 5);
+        due("7 70 is out", x.thought(0, 0), 0);
+        // Two props: 65 and 10 is 102, 62 beside a B; less than was stood beside a B, more by itself.
+        x.prop(0);
+        x.keep();
+        due("6 stands by two props", x.on(4, 2), 0);
+        due("6 the greatest by itself", x.roof(0, 6), 102);
+        due("7 none more is out", x.thought(0, 1), 5);
+        due("27 as KEPT", x.back() + x.roof(0, 6), 95);
+        // 80 and 10 is 125, 85 beside a B; then 100 and 10 is 155, 115 beside a B: above 99.
+        due("6 stands", x.on(4, 1), 0);
+        due("6 the greatest by itself again", x.roof(0, 6), 125);
+        due("6 GONE", x.on(4, 1), 1);
+        due("6 not what it did not stand", x.roof(0, 6), 125);
     }
 
     private static void thought() {
