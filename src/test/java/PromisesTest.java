@@ -560,6 +560,13 @@ public final class PromisesTest {
         due("12 the first alone", x.roof(0, 3), 8);
         x.on(4, 0);
         due("12 both", x.roof(0, 3), 16);
+        // The props of a GONE one get nearer like all.
+        x = laid("r10,0,0,99,0,8;b0,12,10;k1,5,0,0;h0,1;o2,2;");
+        x.prop(0);
+        due("12 15 with a prop that is not done", x.on(4, 1), 1);
+        due("12 not done, of a GONE one", x.roof(0, 3), 0);
+        x.on(4, 0);
+        due("12 done, of a GONE one", x.roof(0, 3), 2);
     }
 
     /** Which spot a hand that clears one is sent to; NONE: nothing is cleared. */
@@ -614,6 +621,24 @@ public final class PromisesTest {
         x = laid("r6,0,0,99,0,1;r0,7,0,99,0,8;p0,5;p1,4;h3,4;");
         x.on(2, 0);
         due("12 the third hand goes on", x.roof(1, 1) * 100 + x.roof(1, 0), 306);
+        weakBesides();
+    }
+
+    /** WEAK: S and D more alone, no water, nothing slides; less props that are done. */
+    private static void weakBesides() {
+        hand("no water", "r20,0,0,999,0,8;r10,0,0,999,0,8;b0,22,5;b0,99,5;b1,11,5;b1,99,5;k1,2,0,5;",
+                1, 1, 2);
+        // 14 and 5 is above 15, though it slides down to that; it falls on ROOF 0.
+        RoofsOfSnow x = laid("r10,0,0,99,0,8;r14,0,0,15,0,0;b0,99,10;b1,15,10;k1,5,0,0;h1,1;");
+        x.on(1, 1);
+        due("12 as if nothing slid", x.roof(0, 0), 16);
+        // 26 and 5 is above 30, but not less 20; 10 and 5 is above 12.
+        x = laid("r30,0,0,999,0,8;r10,0,0,999,0,8;b0,30,10;b1,12,10;k1,5,0,0;h1,4;o20,1;");
+        x.prop(0);
+        x.on(3, 0);
+        due("12 TOLD: ROOF 0", x.roof(0, 0), 26);
+        x.on(1, 1);
+        due("12 less the prop: ROOF 1", x.roof(1, 0) * 100 + x.roof(0, 0), 1131);
     }
 
     private static void sky() {
