@@ -179,6 +179,16 @@ public final class EdgesOfHoursTest {
         x.on(0, 0);
         due("12 down to V", sides(x, 0), 10003);
         due("12 what was cleared alone", sides(x, 1), 10000);
+        // ROOF by ROOF, to the last one.
+        StringBuilder text = new StringBuilder("h0,1;");
+        for (int i = 0; i < 8; i++) {
+            text.append("r50,50,0,").append(40 + i).append(",0,8;");
+        }
+        x = laid(text.toString());
+        x.on(4, 0);
+        for (int i = 0; i < 8; i++) {
+            due("12 V of " + i, sides(x, i), (40 + i) * 1001);
+        }
         // What is thrown slides as well.
         x = laid("r30,0,0,999,0,1;r15,0,0,20,0,8;h1,30;");
         x.on(0, 0);
@@ -477,6 +487,7 @@ public final class EdgesOfHoursTest {
         }
         // What is GONE lies there no more.
         due("12 DEEP, one is GONE", spot("r9,9,0,99,0,8;r0,1,0,99,0,8;b0,5,10;", 0, 0), 3);
+        due("12 DEEP, one is GONE, SIDE 0", spot("r9,9,0,99,0,8;r1,0,0,99,0,8;b0,5,10;", 0, 0), 2);
     }
 
     /** "of B below its PRESS, were S more on SIDE 0, D on SIDE 1 (of the SKY of this HOUR)". */
@@ -495,8 +506,20 @@ public final class EdgesOfHoursTest {
         // The SIDE on which more lies now, whatever the SKY brings.
         due("12 WEAK, SIDE 1", spot("r3,4,0,99,0,8;k1,60,0,0;", 1, 1), 1);
         due("12 WEAK, like SIDES", spot("r4,4,0,99,0,8;k1,0,60,0;", 1, 1), 0);
+        // Less what a prop adds that is done: 21 less 1 is not above 20, so ROOF 1 by 8 of 10.
+        RoofsOfSnow x = laid("r6,0,0,99,0,8;r6,0,0,99,0,8;b0,20,9;b0,99,1;b1,20,8;b1,99,2;k1,15,0,0;"
+                + "h1,1;o1,2;");
+        x.prop(0);
+        x.on(4, 0);
+        x.keep();
+        x.on(1, 1);
+        due("12 WEAK, not done ahead of the hands", x.roof(0, 0) * 100 + x.roof(1, 0), 2021);
+        x.back();
+        x.on(4, 0);
+        x.on(1, 1);
+        due("12 WEAK, less the prop", x.roof(0, 0) * 100 + x.roof(1, 0), 2120);
         // The first hand takes 2 from ROOF 1: 21 is 19 then, so the second one is at ROOF 0.
-        RoofsOfSnow x = laid(two + "k1,15,0,0;h2,2;");
+        x = laid(two + "k1,15,0,0;h2,2;");
         x.on(1, 1);
         due("12 WEAK, hand by hand", x.roof(0, 0) * 100 + x.roof(1, 0), 1919);
     }

@@ -601,6 +601,11 @@ public final class EdgesOfTextTest {
         x = laid("r30,0,0,99,7,8;b0,29,10;");
         due("5 GONE at once", x.now(3) + x.roof(0, 0) + x.roof(0, 5), 0);
         due("5 also the only one", x.count(0), 1);
+        x = laid("r60,0,0,99,7,8;");
+        x.wipe();
+        Check.write(x, "r70,0,0,99,7,8;b0,69,10;");
+        due("5 GONE at once, behind one that stood", x.lay() * 10 + x.now(3), 10);
+        due("6 it has stood nothing", x.roof(0, 6), 0);
         x = laid("r30,0,0,99,7,8;b0,29,10;b0,99,0;");
         due("5 GONE: CHANCES would be 0", x.now(3), 0);
     }

@@ -206,6 +206,7 @@ public final class EdgesOfThoughtTest {
     private static void overCut() {
         String third = "r6,0,0,999,1,8;b0,5,7;b0,8,1;b0,99,2;k0,3,0,0;h0,1;";
         due("16 333333 by 1 tenth", laid(third + "c0,1,9,0;").over(4, 1), 33333);
+        due("16 333333 by 3 tenths", laid(third + "c0,3,7,0;").over(4, 1), 99999);
         due("16 333333 by 9 tenths", laid(third + "c0,9,1,0;").over(4, 1), 299999);
         due("16 333333 by 10", laid(third + "c0,10,0,0;").over(4, 5), 333333);
         // 0 and 0 by 1, 0 and 1 by 9: 10 times 333333; 1 and 1 by 90: none.
@@ -305,7 +306,22 @@ public final class EdgesOfThoughtTest {
             x.sky(1);
             due("18 by " + (10 + more) + " and 13", x.first(0), less[more]);
         }
-        RoofsOfSnow x = laid("r10,10,0,999,9,8;r0,9,0,99,0,8;b0,25,10;h0,1;k1,9,0,0;");
+        // The same of ROOF 7; DEEP clears ROOF 0 from the second HOUR on.
+        for (int more = 0; more < less.length; more++) {
+            RoofsOfSnow x = laid("r99,0,0,999,0,8;" + "r0,0,0,999,0,8;".repeat(6) + "r" + (10 + more)
+                    + ",13,20,999,9,8;b7,33,10;h1,3;k1,3,3,0;");
+            Check.skies(x, 1, 0, 0);
+            due("18 ROOF 7 by " + (10 + more) + " and 13", x.first(7), less[more]);
+        }
+        // By SIDE 1 10, 10, then DEEP at SIDE 0: 15, 10; not 25, 10 by none. By SIDE 0 0, 20: 60.
+        RoofsOfSnow x = laid("r10,20,20,999,9,8;b0,50,10;h1,10;k1,15,0,0;");
+        Check.skies(x, 0, 1);
+        due("18 then by DEEP, SIDE 1", x.first(0), 1);
+        // By either SIDE 10 and 20, then DEEP: 15, 15; not 15, 25 by none or 5, 25 by the same one.
+        x = laid("r20,20,20,999,9,8;b0,50,10;h1,10;k1,5,5,0;");
+        Check.skies(x, 0, 1);
+        due("18 then by DEEP, like ones", x.first(0), 0);
+        x = laid("r10,10,0,999,9,8;r0,9,0,99,0,8;b0,25,10;h0,1;k1,9,0,0;");
         x.sky(1);
         due("18 no hands", x.first(0), 0);
         due("18 nothing lies", x.first(1), 0);
@@ -650,6 +666,14 @@ public final class EdgesOfThoughtTest {
         due("25 DEEP keeps 30, and 17 goes", x.night(3, 0, 2, 0), 2);
         x.tell(1, 0);
         due("25 TOLD: 36 and 5 go; 6 stays", x.night(3, 3, 24, 0), 1);
+        // 30 fall on ROOF 1 while that stands; by these it is GONE, what falls later is away.
+        x = laid("r60,0,0,99,1,1;r9,0,0,99,2,8;r9,0,0,99,4,8;b0,60,10;b1,38,10;b2,20,10;h1,30;");
+        due("25 ROOF 1 by 39, once", x.night(7, 3, 24, 0), 2);
+        due("25 its WORTH once", x.night(7, 3, 24, 1), 2);
+        // What is GONE in the night has nothing to be cleared: the hand is at ROOF 1 from then on.
+        x = laid("r50,0,0,99,1,8;r20,0,0,99,2,8;b0,50,10;b1,41,10;k0,11,0,0;k1,11,0,0;k2,11,0,0;h1,10;");
+        due("25 51, then 31 and one more each HOUR", x.night(7, 0, 11, 0), 1);
+        due("25 42 in the 12th", x.night(7, 0, 12, 0), 3);
     }
 
     // ---- KEPT, how many
