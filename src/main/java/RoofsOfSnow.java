@@ -1081,7 +1081,7 @@ public final class RoofsOfSnow {
             return together;
         }
 
-        /** The ROOFS that GO because they bear no more than this, as bits. */
+        /** By what each ROOF bears: those that GO, as bits. */
         int dropAbove(Row borne) {
             int gone = 0;
             for (int i = 0; i < plan.roofs; i++) {
